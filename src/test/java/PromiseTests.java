@@ -287,6 +287,7 @@ public final class PromiseTests {
         x.row(3, 0, 3);
         x.image(0);
         due("times(2)", x.times(2), 27);
+        due("opens(2)", x.opens(2), 31);
         due("a faulty text", read(x, "e5,1;"), -1000105);
         due("the STREET stays", x.count(1), 5);
         due("TIME stays", x.count(2), 2);
@@ -591,6 +592,7 @@ public final class PromiseTests {
         due("spots(2,1)", x.spots(2, 1), 2);
         due("spots(1,3)", x.spots(1, 3), 2);
         due("spots(3,3)", x.spots(3, 3), 4);
+        due("picture 0", x.spots(3, 0), 2);
         due("its own", x.spots(0, 3), NONE);
         due("too far", x.spots(0, 7), NONE);
         x.times(1);
@@ -626,6 +628,13 @@ public final class PromiseTests {
         x = streetOf("e20,0;f20,0,9;f20,0,4;");
         due("none", x.off(0), NONE);
         due("none", x.off(1), NONE);
+        x = streetOf("e20,0;f24,0,9;f1,0,7;");
+        due("a turn too late", x.off(0), NONE);
+        due("a turn too late", x.off(1), NONE);
+        x.times(1);
+        due("a turn on", x.off(1), 60);
+        due("of two the first", streetOf("e9,0;f1,0,0;f2,0,0;").off(0), 0);
+        x = streetOf("e20,0;f20,0,9;f20,0,4;");
         due("nothing changes", x.window(1, 2), 4);
     }
 
@@ -669,7 +678,11 @@ public final class PromiseTests {
         x = streetOf("e4,1;r9,3,9;r1,2,5;t3,1,4;");
         due("either", x.shut(0, 6, 0), 1);
         due("the least", x.shut(0, 6, 1), 2);
-        due("nothing changes", x.window(1, 2), 5);
+        // Glued may be the first two, by whom the third wears, or the third.
+        x = streetOf("e4,1;t2,1,4;r3,2,4;r1,3,5;r9,4,9;");
+        due("the fewest", x.shut(3, 6, 0), 1);
+        due("the fewest", x.shut(3, 6, 1), 4);
+        due("nothing changes", x.window(2, 2), 5);
     }
 
     private static void tradesPromise() {
@@ -683,6 +696,7 @@ public final class PromiseTests {
         due("seen ahead of the pressing", x.trades(1, 9, 0), 1);
         due("two", x.trades(1, 9, 1), 2);
         due("a later pair", x.trades(0, 1, 0), 12);
+        due("how many by it", x.trades(0, 1, 1), 1);
         due("n 0", x.trades(1, 0, 0), BAD);
         due("n 25", x.trades(1, 25, 0), BAD);
         due("what -1", x.trades(1, 1, -1), BAD);
@@ -727,6 +741,7 @@ public final class PromiseTests {
         x = streetOf("e5,1;f1,1,1;f1,2,1;f1,2,1;f1,2,1;f1,1,1;");
         due("how many", x.alike(0), 4);
         due("the first", x.alike(1), 4);
+        due("not with 0", streetOf("e5,1;f1,0,1;f1,2,1;f1,2,1;").alike(1), 12);
         x = streetOf("e5,1;f1,1,1;f1,2,1;");
         due("how many of none", x.alike(0), 0);
         due("the first of none", x.alike(1), NONE);
@@ -762,6 +777,7 @@ public final class PromiseTests {
         due("GLUES of a card", x.fits(2, 0, 0, 1, 2), 1);
         tell(x, 1, 0, 1, 1);
         due("EVES of 0 1 1", x.fits(0, 1, 0, 3, 3), (1 << 25) - 16);
+        due("EVES of 0", x.fits(0, 1, 0, 1, 3), (1 << 25) - 4);
         due("neither 1 nor 0", x.fits(0, 0, 5, 1, 1), 0);
         x.row(2, 2, 12);
         due("twelve", x.fits(0, 2, 0, 12, 1), ((1 << 25) - 1) & ~63 | 32);
@@ -838,6 +854,7 @@ public final class PromiseTests {
         due("its PICTURE", x.drawn(7, 1, 1), 1);
         due("it stays", x.drawn(10, 1, 0), 1);
         due("n 0", x.drawn(0, 999999, 0), 0);
+        due("by SEED 3, X 50421", x.drawn(1, 3, 0), 1);
         due("n 61", x.drawn(61, 1, 0), BAD);
         due("n -1", x.drawn(-1, 1, 0), BAD);
         due("seed 0", x.drawn(1, 0, 0), BAD);
@@ -849,6 +866,7 @@ public final class PromiseTests {
         x.undo();
         x.open(1);
         x.times(1);
+        due("pressed to by SEED 3", x.drawn(1, 3, 0), 0);
         due("what was SEEN counts", x.drawn(0, 1, 1), 1);
         due("OPEN now", x.drawn(0, 1, 0), 1);
         x = streetOf("e24,1;t3,1,9;t3,2,9;");
