@@ -314,7 +314,7 @@ public final class AdventStreets {
             return BAD;
         }
         int pair = foretold.bestTrade(now, window, n);
-        return what == 0 ? pair : foretold.seenByTrade(now, window, n, pair / 10, pair % 10);
+        return what == 0 ? pair : foretold.mostSeen;
     }
 
     public int along(int window, int what) {
@@ -511,7 +511,7 @@ public final class AdventStreets {
     private static boolean isOfKind(int kind, int asked) {
         int at = kind;
         for (int up = 0; up < IS_TOO.length && at != asked; up++) {
-            at = IS_TOO[at];
+            at = isWithin(at, 0, IS_TOO.length - 1) ? IS_TOO[at] : 0;
         }
         return at == asked;
     }
@@ -1006,6 +1006,7 @@ public final class AdventStreets {
     /** What would come of the STREET now; all of it is tried on a second STREET. */
     private static final class Foretold {
         private final Street trial = new Street();
+        private int mostSeen;
 
         Street behind(Street now, int d) {
             trial.take(now);
@@ -1071,15 +1072,15 @@ public final class AdventStreets {
             return true;
         }
 
-        /** 10 a and b of the first pair by whose change a WINDOW has SEEN most. */
+        /** 10 a and b of the first pair by whose change a WINDOW has SEEN most; leaves how many. */
         int bestTrade(Street now, int window, int n) {
             int best = NONE;
-            int most = NONE;
+            mostSeen = NONE;
             for (int a = 0; a < now.windows; a++) {
                 for (int b = a + 1; b < now.windows; b++) {
                     int pictures = seenByTrade(now, window, n, a, b);
-                    if (pictures > most) {
-                        most = pictures;
+                    if (pictures > mostSeen) {
+                        mostSeen = pictures;
                         best = 10 * a + b;
                     }
                 }
@@ -1087,7 +1088,7 @@ public final class AdventStreets {
             return best;
         }
 
-        int seenByTrade(Street now, int window, int n, int a, int b) {
+        private int seenByTrade(Street now, int window, int n, int a, int b) {
             trial.take(now);
             trial.changeDays(a, b);
             turnTrial(n);

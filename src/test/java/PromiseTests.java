@@ -4,8 +4,7 @@ public final class PromiseTests {
     private static final int NULL = -1000011, PLACE = -1000012, KIND = -1000013, SIZE = -1000014, STORE = -1000015;
     private static final int LOW = Integer.MIN_VALUE, HIGH = Integer.MAX_VALUE;
 
-    /** One window of each kind: f d c t r, EVE 5, SIGHT 1. */
-    private static final String FIVE = "e5,1;f2,3,4;d2,1,2;c4,3,1;t1,7,4;r3,0,9;";
+    private static final String FIVE = Play.FIVE;
 
     private static final Check CHECK = new Check("PromiseTests");
     private static String promise;
@@ -56,30 +55,10 @@ public final class PromiseTests {
         CHECK.due(promise + ": " + call, got, want);
     }
 
-    private static AdventStreets streetOf(String text) {
-        AdventStreets x = new AdventStreets();
-        read(x, text);
-        return x;
-    }
-
-    private static int read(AdventStreets x, String text) {
-        for (int i = 0; i < text.length(); i++) {
-            x.feed(text.charAt(i));
-        }
-        return x.street();
-    }
-
     private static AdventStreets rowsOf(int lane, int n) {
         AdventStreets x = new AdventStreets();
         x.row(0, lane, n);
         return x;
-    }
-
-    private static void tell(AdventStreets x, int row, int... items) {
-        x.row(row, 0, items.length);
-        for (int i = 0; i < items.length; i++) {
-            x.set(row, i, items[i]);
-        }
     }
 
     private static void newObject() {
@@ -129,8 +108,8 @@ public final class PromiseTests {
 
     /** ITEMS are read by fits() alone: a flap of DAY 9 stays SHUT, so 0s alone fit it. */
     private static void newItemsAreNone() {
-        AdventStreets x = streetOf("e24,1;f9,1,1;f9,1,1;");
-        tell(x, 0, 1, 1, 1);
+        AdventStreets x = Play.street("e24,1;f9,1,1;f9,1,1;");
+        Play.tell(x, 0, 1, 1, 1);
         due("fits of 1s", x.fits(0, 0, 0, 3, 2), 0);
         x.row(0, 1, 3);
         due("fits of a new row", x.fits(0, 0, 0, 3, 2), 1023);
@@ -193,8 +172,8 @@ public final class PromiseTests {
 
     /** The flap of DAY 3 is open behind turns 3 and 4 alone: 0 0 1 1 fits, and what is shifted does not. */
     private static void copyWithinOne() {
-        AdventStreets x = streetOf("e9,1;f3,1,1;f9,1,1;");
-        tell(x, 0, 9, 0, 0, 1, 1);
+        AdventStreets x = Play.street("e9,1;f3,1,1;f9,1,1;");
+        Play.tell(x, 0, 9, 0, 0, 1, 1);
         due("fits ahead", x.fits(0, 0, 0, 4, 1), 0);
         due("copy down", x.copy(0, 1, 0, 0, 4), 4);
         due("fits behind", x.fits(0, 0, 0, 4, 1), 1 << 3);
@@ -235,7 +214,7 @@ public final class PromiseTests {
 
     private static void faulty(String text, int at, int number) {
         AdventStreets x = new AdventStreets();
-        due("street() of " + text, read(x, text), -1000100 - at);
+        due("street() of " + text, Play.read(x, text), -1000100 - at);
         due("fault() of " + text, x.fault(), number);
         due("count(8) of " + text, x.count(8), 0);
         due("count(1) of " + text, x.count(1), 0);
@@ -244,9 +223,9 @@ public final class PromiseTests {
     private static void streetPromise() {
         promise = "7 street";
         String ten = "f1,1,1;f1,1,1;f1,1,1;f1,1,1;f1,1,1;f1,1,1;f1,1,1;f1,1,1;f1,1,1;f1,1,1;";
-        due("two", read(new AdventStreets(), "e2,0;f1,0,0;r24,9,9;"), 2);
-        due("ten", read(new AdventStreets(), "e24,3;" + ten), 10);
-        due("noughts ahead", read(new AdventStreets(), "e05,03;t09,07,00;d01,02,03;"), 2);
+        due("two", Play.read(new AdventStreets(), "e2,0;f1,0,0;r24,9,9;"), 2);
+        due("ten", Play.read(new AdventStreets(), "e24,3;" + ten), 10);
+        due("noughts ahead", Play.read(new AdventStreets(), "e05,03;t09,07,00;d01,02,03;"), 2);
         faulty("", 0, 1);
         faulty("e", 1, 1);
         faulty("f1,1,1;", 0, 1);
@@ -283,16 +262,16 @@ public final class PromiseTests {
     }
 
     private static void streetInPlace() {
-        AdventStreets x = streetOf(FIVE);
+        AdventStreets x = Play.street(FIVE);
         x.row(3, 0, 3);
         x.image(0);
         due("times(2)", x.times(2), 27);
         due("opens(2)", x.opens(2), 31);
-        due("a faulty text", read(x, "e5,1;"), -1000105);
+        due("a faulty text", Play.read(x, "e5,1;"), -1000105);
         due("the STREET stays", x.count(1), 5);
         due("TIME stays", x.count(2), 2);
         due("ACTS stay", x.count(7), 2);
-        due("a new one", read(x, "e7,2;t1,1,1;t2,2,2;"), 2);
+        due("a new one", Play.read(x, "e7,2;t1,1,1;t2,2,2;"), 2);
         due("WINDOWS", x.count(1), 2);
         due("TIME", x.count(2), 0);
         due("EVE", x.count(4), 7);
@@ -311,11 +290,11 @@ public final class PromiseTests {
         promise = "8 fault";
         AdventStreets x = new AdventStreets();
         due("fault()", x.fault(), 0);
-        read(x, "e1");
+        Play.read(x, "e1");
         due("fault() of a NUMBER", x.fault(), 2);
-        due("a good one", read(x, FIVE), 5);
+        due("a good one", Play.read(x, FIVE), 5);
         due("fault() stays", x.fault(), 2);
-        read(x, "q");
+        Play.read(x, "q");
         due("fault() of a TOKEN", x.fault(), 1);
     }
 
@@ -324,7 +303,7 @@ public final class PromiseTests {
         AdventStreets x = new AdventStreets();
         due("no STREET", x.times(1), STATE);
         due("no STREET ahead of BAD", x.times(0), STATE);
-        x = streetOf(FIVE);
+        x = Play.street(FIVE);
         due("times(0)", x.times(0), BAD);
         due("times(25)", x.times(25), BAD);
         due("times(-1)", x.times(-1), BAD);
@@ -351,7 +330,7 @@ public final class PromiseTests {
     }
 
     private static void turn(String text, int... openBehind) {
-        AdventStreets x = streetOf(text);
+        AdventStreets x = Play.street(text);
         for (int t = 0; t < openBehind.length; t++) {
             due("turn " + (t + 1) + " of " + text, x.times(1), openBehind[t]);
         }
@@ -367,7 +346,7 @@ public final class PromiseTests {
         turn("e9,0;r2,0,4;t8,0,0;r2,0,5;", 0, 1, 1);
         turn("e9,0;f1,0,0;r9,0,9;r9,0,9;r9,0,9;", 1, 3, 7, 15);
         turn("e9,0;r9,0,9;r9,0,9;f1,0,0;", 4, 6, 7);
-        AdventStreets x = streetOf("e4,0;d1,0,9;f3,0,9;f4,0,1;f4,0,0;");
+        AdventStreets x = Play.street("e4,0;d1,0,9;f3,0,9;f4,0,1;f4,0,0;");
         x.press(0);
         x.times(1);
         due("GLUE of one that opened", x.window(0, 2), 8);
@@ -386,7 +365,7 @@ public final class PromiseTests {
 
     private static void looks() {
         promise = "9 looks";
-        AdventStreets x = streetOf("e3,2;f1,5,0;f3,6,0;f24,7,0;f2,5,0;");
+        AdventStreets x = Play.street("e3,2;f1,5,0;f3,6,0;f24,7,0;f2,5,0;");
         x.times(1);
         due("SEEN by 0, not its own", x.window(0, 4), 0);
         due("SEEN by 1", x.window(1, 4), 1 << 5);
@@ -398,7 +377,7 @@ public final class PromiseTests {
         due("SEEN by 0 ahead of the pressing", x.window(0, 4), 1 << 6);
         due("SEEN by 3", x.window(3, 4), 1 << 6);
         due("SEEN by 1 not its own", x.window(1, 4), 1 << 5);
-        AdventStreets blind = streetOf("e3,0;f1,5,0;f1,6,0;");
+        AdventStreets blind = Play.street("e3,0;f1,5,0;f1,6,0;");
         blind.times(3);
         due("SIGHT 0", blind.window(0, 4), 0);
     }
@@ -406,7 +385,7 @@ public final class PromiseTests {
     private static void openPromise() {
         promise = "10 open";
         due("no STREET", new AdventStreets().open(0), BAD);
-        AdventStreets x = streetOf(FIVE);
+        AdventStreets x = Play.street(FIVE);
         due("open(3)", x.open(3), 7);
         due("open(3)", x.open(3), STATE);
         due("open(5)", x.open(5), BAD);
@@ -421,7 +400,7 @@ public final class PromiseTests {
     private static void pressPromise() {
         promise = "11 press";
         due("no STREET", new AdventStreets().press(0), BAD);
-        AdventStreets x = streetOf(FIVE);
+        AdventStreets x = Play.street(FIVE);
         due("press(3)", x.press(3), STATE);
         x.open(3);
         due("press(3)", x.press(3), 4);
@@ -435,7 +414,7 @@ public final class PromiseTests {
     private static void gluePromise() {
         promise = "12 glue";
         due("no STREET", new AdventStreets().glue(0, 1), BAD);
-        AdventStreets x = streetOf(FIVE);
+        AdventStreets x = Play.street(FIVE);
         due("glue(0,3)", x.glue(0, 3), 7);
         due("glue(0,9)", x.glue(0, 9), 9);
         due("glue(0,1)", x.glue(0, 1), 9);
@@ -450,7 +429,7 @@ public final class PromiseTests {
     private static void tradePromise() {
         promise = "13 trade";
         due("no STREET", new AdventStreets().trade(0, 1), BAD);
-        AdventStreets x = streetOf(FIVE);
+        AdventStreets x = Play.street(FIVE);
         due("trade(0,3)", x.trade(0, 3), 1);
         due("DAY", x.window(0, 0), 1);
         due("DAY", x.window(3, 0), 2);
@@ -465,7 +444,7 @@ public final class PromiseTests {
         promise = "14 sight";
         due("no STREET", new AdventStreets().sight(1), STATE);
         due("no STREET ahead of BAD", new AdventStreets().sight(4), STATE);
-        AdventStreets x = streetOf(FIVE);
+        AdventStreets x = Play.street(FIVE);
         due("sight(3)", x.sight(3), 1);
         due("sight(3)", x.sight(3), 3);
         due("sight(0)", x.sight(0), 3);
@@ -478,7 +457,7 @@ public final class PromiseTests {
     private static void undoPromise() {
         promise = "15 undo";
         due("no STREET", new AdventStreets().undo(), STATE);
-        AdventStreets x = streetOf("e3,1;f1,1,9;f3,2,5;");
+        AdventStreets x = Play.street("e3,1;f1,1,9;f3,2,5;");
         due("none", x.undo(), STATE);
         x.times(3);
         x.trade(0, 1);
@@ -506,7 +485,7 @@ public final class PromiseTests {
     }
 
     private static void onlySoManyUndone() {
-        AdventStreets x = streetOf("e3,1;f1,1,9;f3,2,5;");
+        AdventStreets x = Play.street("e3,1;f1,1,9;f3,2,5;");
         x.times(20);
         x.times(10);
         due("ACTS", x.count(7), 24);
@@ -522,7 +501,7 @@ public final class PromiseTests {
     private static void windowPromise() {
         promise = "16 window";
         due("no STREET", new AdventStreets().window(0, 0), BAD);
-        AdventStreets x = streetOf(FIVE);
+        AdventStreets x = Play.street(FIVE);
         due("DAY", x.window(2, 0), 4);
         due("PICTURE", x.window(2, 1), 3);
         due("GLUE", x.window(2, 2), 1);
@@ -549,7 +528,7 @@ public final class PromiseTests {
         promise = "17 opens";
         due("no STREET", new AdventStreets().opens(0), STATE);
         due("no STREET ahead of BAD", new AdventStreets().opens(61), STATE);
-        AdventStreets x = streetOf(FIVE);
+        AdventStreets x = Play.street(FIVE);
         due("opens(0)", x.opens(0), 0);
         due("opens(1)", x.opens(1), 8);
         due("opens(2)", x.opens(2), 27);
@@ -568,7 +547,7 @@ public final class PromiseTests {
     private static void aheadPromise() {
         promise = "18 ahead";
         due("no STREET", new AdventStreets().ahead(0, 0, 0), BAD);
-        AdventStreets x = streetOf(FIVE);
+        AdventStreets x = Play.street(FIVE);
         due("GLUE now", x.ahead(3, 0, 0), 4);
         due("GLUE behind 1", x.ahead(3, 1, 0), 3);
         due("GLUE behind 5", x.ahead(3, 5, 0), 2);
@@ -587,7 +566,7 @@ public final class PromiseTests {
     private static void spotsPromise() {
         promise = "19 spots";
         due("no STREET", new AdventStreets().spots(0, 0), BAD);
-        AdventStreets x = streetOf(FIVE);
+        AdventStreets x = Play.street(FIVE);
         due("spots(2,7)", x.spots(2, 7), 1);
         due("spots(2,1)", x.spots(2, 1), 2);
         due("spots(1,3)", x.spots(1, 3), 2);
@@ -600,10 +579,10 @@ public final class PromiseTests {
         due("picture 10", x.spots(0, 10), BAD);
         due("picture -1", x.spots(0, -1), BAD);
         due("window 5", x.spots(5, 0), BAD);
-        AdventStreets late = streetOf("e2,1;f1,1,0;f9,2,0;");
+        AdventStreets late = Play.street("e2,1;f1,1,0;f9,2,0;");
         due("never", late.spots(0, 2), NONE);
         // The card's GLUE is off behind 57 turns; it is open from 58 on, and a ruler further each turn.
-        late = streetOf("e19,1;c19,1,3;r24,2,9;r24,3,9;r24,5,9;f24,4,9;");
+        late = Play.street("e19,1;c19,1,3;r24,2,9;r24,3,9;r24,5,9;f24,4,9;");
         due("spots(3,3)", late.spots(3, 3), 60);
         due("spots(4,5)", late.spots(4, 5), NONE);
         late.times(1);
@@ -614,34 +593,34 @@ public final class PromiseTests {
         promise = "20 off";
         due("no STREET", new AdventStreets().off(0), STATE);
         due("no STREET ahead of BAD", new AdventStreets().off(2), STATE);
-        AdventStreets x = streetOf(FIVE);
+        AdventStreets x = Play.street(FIVE);
         due("which", x.off(0), 2);
         due("when", x.off(1), 4);
         due("what 2", x.off(2), BAD);
         due("what -1", x.off(-1), BAD);
-        x = streetOf("e9,0;f1,0,9;f2,0,0;t3,0,0;");
+        x = Play.street("e9,0;f1,0,9;f2,0,0;t3,0,0;");
         due("which of several", x.off(0), 1);
         due("now", x.off(1), 0);
-        x = streetOf("e20,0;f20,0,9;f20,0,3;");
+        x = Play.street("e20,0;f20,0,9;f20,0,3;");
         due("which at last", x.off(0), 1);
         due("at last", x.off(1), 60);
-        x = streetOf("e20,0;f20,0,9;f20,0,4;");
+        x = Play.street("e20,0;f20,0,9;f20,0,4;");
         due("none", x.off(0), NONE);
         due("none", x.off(1), NONE);
-        x = streetOf("e20,0;f24,0,9;f1,0,7;");
+        x = Play.street("e20,0;f24,0,9;f1,0,7;");
         due("a turn too late", x.off(0), NONE);
         due("a turn too late", x.off(1), NONE);
         x.times(1);
         due("a turn on", x.off(1), 60);
-        due("of two the first", streetOf("e9,0;f1,0,0;f2,0,0;").off(0), 0);
-        x = streetOf("e20,0;f20,0,9;f20,0,4;");
+        due("of two the first", Play.street("e9,0;f1,0,0;f2,0,0;").off(0), 0);
+        x = Play.street("e20,0;f20,0,9;f20,0,4;");
         due("nothing changes", x.window(1, 2), 4);
     }
 
     private static void shutPromise() {
         promise = "21 shut";
         due("no STREET", new AdventStreets().shut(0, 1, 0), BAD);
-        AdventStreets x = streetOf(FIVE);
+        AdventStreets x = Play.street(FIVE);
         due("a flap, a turn ahead", x.shut(0, 1, 0), 0);
         due("a flap, a turn ahead", x.shut(0, 1, 1), 0);
         due("a flap", x.shut(0, 2, 0), NONE);
@@ -664,22 +643,22 @@ public final class PromiseTests {
     }
 
     private static void shutOfSeveral() {
-        AdventStreets x = streetOf("e5,1;t1,1,4;r3,0,3;f24,0,0;c24,2,0;");
+        AdventStreets x = Play.street("e5,1;t1,1,4;r3,0,3;f24,0,0;c24,2,0;");
         due("both", x.shut(1, 3, 0), 2);
         due("both", x.shut(1, 3, 1), 3);
         due("one", x.shut(1, 2, 1), 1);
         due("a card without GLUE", x.shut(3, 24, 1), 8);
         due("a flap beyond the EVE", x.shut(2, 24, 1), 0);
         // The ruler of DAY 1 wears to 4 on the EVE, if the tight one was OPEN: either may be glued.
-        x = streetOf("e4,1;t3,1,4;r1,2,5;r9,3,9;");
+        x = Play.street("e4,1;t3,1,4;r1,2,5;r9,3,9;");
         due("ahead of it", x.shut(2, 5, 0), 0);
         due("either", x.shut(2, 6, 0), 1);
         due("the least", x.shut(2, 6, 1), 1);
-        x = streetOf("e4,1;r9,3,9;r1,2,5;t3,1,4;");
+        x = Play.street("e4,1;r9,3,9;r1,2,5;t3,1,4;");
         due("either", x.shut(0, 6, 0), 1);
         due("the least", x.shut(0, 6, 1), 2);
         // Glued may be the first two, by whom the third wears, or the third.
-        x = streetOf("e4,1;t2,1,4;r3,2,4;r1,3,5;r9,4,9;");
+        x = Play.street("e4,1;t2,1,4;r3,2,4;r1,3,5;r9,4,9;");
         due("the fewest", x.shut(3, 6, 0), 1);
         due("the fewest", x.shut(3, 6, 1), 4);
         due("nothing changes", x.window(2, 2), 5);
@@ -688,7 +667,7 @@ public final class PromiseTests {
     private static void tradesPromise() {
         promise = "22 trades";
         due("no STREET", new AdventStreets().trades(0, 1, 0), BAD);
-        AdventStreets x = streetOf("e9,1;f8,1,0;f9,2,0;f1,3,0;");
+        AdventStreets x = Play.street("e9,1;f8,1,0;f9,2,0;f1,3,0;");
         due("the first of alike ones", x.trades(1, 1, 0), 1);
         due("one", x.trades(1, 1, 1), 1);
         due("the best", x.trades(1, 8, 0), 2);
@@ -704,13 +683,13 @@ public final class PromiseTests {
         due("nothing changes", x.window(0, 0) * 10 + x.count(7), 80);
         x.times(1);
         due("what was SEEN counts", x.trades(1, 1, 1), 1);
-        due("two windows have one pair", streetOf("e3,1;f1,1,1;f2,2,2;").trades(1, 1, 0), 1);
+        due("two windows have one pair", Play.street("e3,1;f1,1,1;f2,2,2;").trades(1, 1, 0), 1);
     }
 
     private static void alongPromise() {
         promise = "23 along";
         due("no STREET", new AdventStreets().along(0, 0), BAD);
-        AdventStreets x = streetOf(FIVE);
+        AdventStreets x = Play.street(FIVE);
         due("along(0,0)", x.along(0, 0), 4);
         due("along(0,1)", x.along(0, 1), 5);
         due("along(2,0)", x.along(2, 0), 2);
@@ -733,16 +712,16 @@ public final class PromiseTests {
         promise = "24 alike";
         due("no STREET", new AdventStreets().alike(0), STATE);
         due("no STREET ahead of BAD", new AdventStreets().alike(2), STATE);
-        AdventStreets x = streetOf(FIVE);
+        AdventStreets x = Play.street(FIVE);
         due("how many", x.alike(0), 1);
         due("the first", x.alike(1), 2);
         due("what 2", x.alike(2), BAD);
         due("what -1", x.alike(-1), BAD);
-        x = streetOf("e5,1;f1,1,1;f1,2,1;f1,2,1;f1,2,1;f1,1,1;");
+        x = Play.street("e5,1;f1,1,1;f1,2,1;f1,2,1;f1,2,1;f1,1,1;");
         due("how many", x.alike(0), 4);
         due("the first", x.alike(1), 4);
-        due("not with 0", streetOf("e5,1;f1,0,1;f1,2,1;f1,2,1;").alike(1), 12);
-        x = streetOf("e5,1;f1,1,1;f1,2,1;");
+        due("not with 0", Play.street("e5,1;f1,0,1;f1,2,1;f1,2,1;").alike(1), 12);
+        x = Play.street("e5,1;f1,1,1;f1,2,1;");
         due("how many of none", x.alike(0), 0);
         due("the first of none", x.alike(1), NONE);
     }
@@ -750,7 +729,7 @@ public final class PromiseTests {
     private static void guessPromise() {
         promise = "25 guess";
         due("no STREET", new AdventStreets().guess(0), BAD);
-        AdventStreets x = streetOf(FIVE);
+        AdventStreets x = Play.street(FIVE);
         due("guess(0)", x.guess(0), 139);
         x.times(1);
         due("guess(2)", x.guess(2), 11);
@@ -763,8 +742,8 @@ public final class PromiseTests {
     private static void fitsPromise() {
         promise = "26 fits";
         due("no STREET", new AdventStreets().fits(0, 0, 0, 1, 0), BAD);
-        AdventStreets x = streetOf(FIVE);
-        tell(x, 0, 1, 0, 1, 0, 0, 2);
+        AdventStreets x = Play.street(FIVE);
+        Play.tell(x, 0, 1, 0, 1, 0, 0, 2);
         due("KINDS of 1", x.fits(3, 0, 0, 1, 0), 62);
         due("KINDS of 0 1", x.fits(4, 0, 1, 2, 0), 32);
         due("KINDS of 0 0", x.fits(4, 0, 3, 2, 0), 30);
@@ -775,7 +754,7 @@ public final class PromiseTests {
         due("GLUES of 1", x.fits(3, 0, 0, 1, 2), 31);
         due("GLUES of 0", x.fits(3, 0, 1, 1, 2), 992);
         due("GLUES of a card", x.fits(2, 0, 0, 1, 2), 1);
-        tell(x, 1, 0, 1, 1);
+        Play.tell(x, 1, 0, 1, 1);
         due("EVES of 0 1 1", x.fits(0, 1, 0, 3, 3), (1 << 25) - 16);
         due("EVES of 0", x.fits(0, 1, 0, 1, 3), (1 << 25) - 4);
         due("neither 1 nor 0", x.fits(0, 0, 5, 1, 1), 0);
@@ -804,9 +783,9 @@ public final class PromiseTests {
 
     /** TIME 5: THE DATE is 2 by EVE 2 (pressed to at once) and by EVE 4. */
     private static void fitsLater() {
-        AdventStreets x = streetOf("e5,1;f2,1,1;f9,1,1;");
+        AdventStreets x = Play.street("e5,1;f2,1,1;f9,1,1;");
         x.times(5);
-        tell(x, 0, 1);
+        Play.tell(x, 0, 1);
         due("EVES later", x.fits(0, 0, 0, 1, 3), 16);
         due("DATES later", x.fits(0, 0, 0, 1, 1), 2);
     }
@@ -819,7 +798,7 @@ public final class PromiseTests {
     private static void windPromise() {
         promise = "27 wind";
         due("no STREET", new AdventStreets().wind(0, 0, 0, 0), BAD);
-        AdventStreets x = streetOf(FIVE);
+        AdventStreets x = Play.street(FIVE);
         dueFraction("now", x, new int[] {0, 0, 3}, 3, 10);
         dueFraction("in lowest terms", x, new int[] {0, 0, 5}, 1, 2);
         dueFraction("no wind", x, new int[] {0, 0, 0}, 0, 1);
@@ -839,7 +818,7 @@ public final class PromiseTests {
         x.open(3);
         dueFraction("it is OPEN", x, new int[] {3, 0, 3}, 1, 1);
         dueFraction("one beside is OPEN", x, new int[] {4, 1, 3}, 1, 1);
-        x = streetOf("e24,0;r24,0,9;r24,0,9;r24,0,9;r24,0,9;r24,0,9;r24,0,9;r24,0,9;r24,0,9;r24,0,9;r24,0,9;");
+        x = Play.street("e24,0;r24,0,9;r24,0,9;r24,0,9;r24,0,9;r24,0,9;r24,0,9;r24,0,9;r24,0,9;r24,0,9;r24,0,9;");
         dueFraction("ten rulers", x, new int[] {0, 9, 1}, 6513215599L, 10000000000L);
     }
 
@@ -848,7 +827,7 @@ public final class PromiseTests {
         promise = "28 drawn";
         due("no STREET", new AdventStreets().drawn(0, 1, 0), STATE);
         due("no STREET ahead of BAD", new AdventStreets().drawn(0, 0, 0), STATE);
-        AdventStreets x = streetOf("e24,1;f24,1,9;f24,2,9;");
+        AdventStreets x = Play.street("e24,1;f24,1,9;f24,2,9;");
         due("none by 6", x.drawn(6, 1, 0), 0);
         due("one by 7", x.drawn(7, 1, 0), 1);
         due("its PICTURE", x.drawn(7, 1, 1), 1);
@@ -869,10 +848,10 @@ public final class PromiseTests {
         due("pressed to by SEED 3", x.drawn(1, 3, 0), 0);
         due("what was SEEN counts", x.drawn(0, 1, 1), 1);
         due("OPEN now", x.drawn(0, 1, 0), 1);
-        x = streetOf("e24,1;t3,1,9;t3,2,9;");
+        x = Play.street("e24,1;t3,1,9;t3,2,9;");
         due("loose by 3", x.drawn(3, 1, 0), 1);
         due("seen by 3", x.drawn(3, 1, 1), 1);
-        x = streetOf("e24,1;t2,1,9;t2,2,1;");
+        x = Play.street("e24,1;t2,1,9;t2,2,1;");
         due("fast by 2", x.drawn(2, 1, 0), 0);
     }
 
@@ -882,7 +861,7 @@ public final class PromiseTests {
         due("image(0)", x.image(0), STATE);
         due("image(2)", x.image(2), BAD);
         due("image(-1)", x.image(-1), BAD);
-        read(x, FIVE);
+        Play.read(x, FIVE);
         due("image(2)", x.image(2), BAD);
         due("image(1)", x.image(1), 1);
         due("image(0)", x.image(0), 1);
@@ -895,7 +874,7 @@ public final class PromiseTests {
         due("restore(0)", x.restore(0), STATE);
         due("restore(2)", x.restore(2), BAD);
         due("restore(-1)", x.restore(-1), BAD);
-        read(x, FIVE);
+        Play.read(x, FIVE);
         x.times(1);
         x.image(0);
         due("restore(1)", x.restore(1), STATE);
@@ -904,7 +883,7 @@ public final class PromiseTests {
         x.sight(3);
         x.glue(3, 5);
         x.image(1);
-        read(x, "e9,0;f1,1,1;f1,1,1;");
+        Play.read(x, "e9,0;f1,1,1;f1,1,1;");
         x.times(1);
         due("restore(0)", x.restore(0), 1);
         due("WINDOWS", x.count(1), 5);
@@ -929,7 +908,7 @@ public final class PromiseTests {
     private static void kindPromise() {
         promise = "31 kind";
         due("no STREET", new AdventStreets().kind(0), BAD);
-        AdventStreets x = streetOf(FIVE);
+        AdventStreets x = Play.street(FIVE);
         for (int w = 0; w < 5; w++) {
             due("kind(" + w + ")", x.kind(w), w + 1);
         }
@@ -940,7 +919,7 @@ public final class PromiseTests {
     private static void asPromise() {
         promise = "32 as";
         due("no STREET", new AdventStreets().as(0, 0), BAD);
-        AdventStreets x = streetOf(FIVE);
+        AdventStreets x = Play.street(FIVE);
         String[] kinds = {"01", "012", "013", "04", "045"};
         for (int w = 0; w < 5; w++) {
             for (int kind = 0; kind <= 5; kind++) {
@@ -966,7 +945,7 @@ public final class PromiseTests {
     private static void askPromise() {
         promise = "33 ask";
         due("no STREET", new AdventStreets().ask(0, 0), BAD);
-        AdventStreets x = streetOf(FIVE);
+        AdventStreets x = Play.street(FIVE);
         dueAsk(x, 0, 0, 7, 11, 10, 21, 20);
         dueAsk(x, 0, 1, 4, 21, 20);
         dueAsk(x, 1, 0, -7, 12, 11, 10, 24, 21, 20);
@@ -987,7 +966,7 @@ public final class PromiseTests {
 
     private static void tracePromise() {
         promise = "34 trace";
-        AdventStreets x = streetOf(FIVE);
+        AdventStreets x = Play.street(FIVE);
         due("empty", x.trace(0), NONE);
         x.ask(1, 0);
         due("trace(0)", x.trace(0), 12);
@@ -1003,7 +982,7 @@ public final class PromiseTests {
 
     private static void countPromise() {
         promise = "35 count";
-        AdventStreets x = streetOf(FIVE);
+        AdventStreets x = Play.street(FIVE);
         x.row(0, 0, 1);
         x.row(4, 1, 0);
         x.times(7);
@@ -1046,7 +1025,7 @@ public final class PromiseTests {
         due("none", x.status(), 0);
         x.drop(1);
         due("NULL", x.status(), 1);
-        read(x, FIVE);
+        Play.read(x, FIVE);
         x.times(1);
         x.open(3);
         x.ask(0, 0);
