@@ -324,7 +324,7 @@ public final class AdventStreets {
         int know = 1 << window;
         int steps = 0;
         for (int step = 1; step <= now.windows; step++) {
-            int then = know | now.near(know) & ~now.opened;
+            int then = know | now.near(know) & now.shutOnes();
             if (then == know) {
                 break;
             }
@@ -380,7 +380,7 @@ public final class AdventStreets {
         }
         int part = now.touching(window);
         long above = foretold.windyWays(now, window, n, c, part);
-        long below = power(TENTHS, Integer.bitCount(part & ~now.opened));
+        long below = power(TENTHS, Integer.bitCount(part & now.shutOnes()));
         long common = commonDivisor(above, below);
         if (common <= 0) {
             return BAD;
@@ -798,6 +798,11 @@ public final class AdventStreets {
             return (1 << windows) - 1;
         }
 
+        /** The WINDOWS (bits) that are SHUT. */
+        int shutOnes() {
+            return all() & ~opened;
+        }
+
         boolean isOpen(int window) {
             return (opened >> window & 1) != 0;
         }
@@ -881,13 +886,16 @@ public final class AdventStreets {
             }
         }
 
-        /** The WINDOWS that are SIGHT or fewer apart from some (not these themselves, if alone). */
+        /**
+         * What is SIGHT or fewer apart from some WINDOWS (not these themselves, if alone); it may
+         * lie beyond the last WINDOW, where nothing is OPEN and nothing SHUT.
+         */
         int near(int some) {
             int near = 0;
             for (int apart = 1; apart <= sight; apart++) {
                 near |= some << apart | some >> apart;
             }
-            return near & all();
+            return near;
         }
 
         int picturesOf(int some) {
@@ -1138,7 +1146,7 @@ public final class AdventStreets {
          * behind n TURNS. WINDOWS that do not touch it would but lengthen the fraction.
          */
         long windyWays(Street now, int window, int n, int c, int part) {
-            int loose = part & ~now.opened;
+            int loose = part & now.shutOnes();
             int all = Integer.bitCount(loose);
             long ways = 0;
             for (int lifted = 0; lifted <= loose; lifted++) {

@@ -6,9 +6,13 @@ import java.lang.reflect.Modifier;
 import java.nio.file.Files;
 import java.nio.file.Path;
 import java.util.Arrays;
+import java.util.HashMap;
+import java.util.HashSet;
 import java.util.List;
+import java.util.Map;
 import java.util.Set;
 import java.util.TreeSet;
+import java.util.regex.Matcher;
 import java.util.regex.Pattern;
 
 /** The face of the class, and those rules of LANGUAGE.md that can be looked up in its file. */
@@ -22,6 +26,11 @@ public final class LanguageTests {
         "Thread", "Object", "var", "volatile", "native", "transient", "hashCode", "equals", "toString",
         "\\w*Exact", "double", "float"};
 
+    private static final Pattern METHOD = Pattern.compile("    (?:    )?(?:[\\w\\[\\]]+ )+(\\w+)\\(.*\\) \\{");
+    private static final Pattern CALL = Pattern.compile("\\b([a-z]\\w*)\\(");
+    /** The one method that calls itself; it carries its depth. */
+    private static final String RECURSION = "answer";
+
     private static final Check CHECK = new Check("LanguageTests");
 
     public static void main(String[] args) throws IOException {
@@ -34,6 +43,7 @@ public final class LanguageTests {
         }
         CHECK.holds("at most twelve classes", AdventStreets.class.getDeclaredClasses().length <= 11);
         source();
+        depths();
         CHECK.end();
     }
 
@@ -101,5 +111,48 @@ public final class LanguageTests {
                 CHECK.holds(where + " ends a short method", i - begin < 60);
             }
         }
+    }
+
+    /** Calls that are no recursion go at most eight deep, methods of one name being taken as one. */
+    private static void depths() throws IOException {
+        Map<String, Set<String>> calls = calls();
+        for (String name : calls.keySet()) {
+            int depth = depth(calls, name, new HashSet<>());
+            CHECK.holds("the calls from " + name + " go at most eight deep, not " + depth, depth <= 8);
+        }
+        CHECK.holds("the methods were found", calls.keySet().containsAll(Set.of("trades", "turn", "answer")));
+    }
+
+    private static Map<String, Set<String>> calls() throws IOException {
+        Map<String, Set<String>> calls = new HashMap<>();
+        String begun = "";
+        for (String line : Files.readAllLines(Path.of(SOURCE))) {
+            String code = line.replaceAll("//.*|^\\s*/?\\*.*", "");
+            Matcher head = METHOD.matcher(code);
+            if (head.matches()) {
+                begun = head.group(1);
+                calls.putIfAbsent(begun, new TreeSet<>());
+                continue;
+            }
+            for (Matcher call = CALL.matcher(code); call.find() && !begun.isEmpty();) {
+                calls.get(begun).add(call.group(1));
+            }
+        }
+        calls.values().forEach(called -> called.retainAll(calls.keySet()));
+        calls.forEach((name, called) -> called.remove(RECURSION.equals(name) ? name : ""));
+        return calls;
+    }
+
+    /** How deep the calls from a method go, it too; far too deep if they come round to it. */
+    private static int depth(Map<String, Set<String>> calls, String name, Set<String> above) {
+        if (!above.add(name)) {
+            return 1000;
+        }
+        int deepest = 0;
+        for (String called : calls.get(name)) {
+            deepest = Math.max(deepest, depth(calls, called, above));
+        }
+        above.remove(name);
+        return deepest + 1;
     }
 }
